@@ -438,8 +438,10 @@ public final class BandCornets {
             saved[MOST_SAVED - 1] = oldest;
             savedCount = MOST_SAVED - 1;
         }
-        saved[savedCount].copyFrom(now);
-        savedCount++;
+        if (savedCount >= 0 && savedCount < saved.length) {
+            saved[savedCount].copyFrom(now);
+            savedCount++;
+        }
     }
 
     private static int kindOfPart(int march, int part) {
