@@ -237,57 +237,12 @@ public final class ModelTest {
     }
 
     private static void check(BandCornets x, Model m, String run, String name, int a, int b, int d) {
-        String due = answer(() -> m.call(name, a, b, d));
-        String got = answer(() -> callOf(x, name, a, b, d));
+        String due = Calls.answer(() -> m.call(name, a, b, d));
+        String got = Calls.answer(() -> Calls.callOf(x, name, a, b, d));
         String kind = due.startsWith("throws") || due.length() < 2 && !name.startsWith("count") ? due : "a number";
         seen.merge(name + " " + kind, 1, Integer::sum);
         c.at(run);
         c.due(name + "(" + a + ", " + b + ", " + d + ")", got, due);
-    }
-
-    private static String answer(Checks.Call call) {
-        try {
-            return String.valueOf(call.answer());
-        } catch (RuntimeException e) {
-            return "throws." + e.getClass().getSimpleName();
-        }
-    }
-
-    private static long callOf(BandCornets x, String name, int a, int b, int d) {
-        switch (name) {
-            case "pupil": return x.pupil(a);
-            case "instrument": return x.instrument(a);
-            case "lend": return x.lend(a, b);
-            case "back": return x.back(a);
-            case "dent": return x.dent(a, b);
-            case "mend": return x.mend(a);
-            case "pay": return x.pay(a, b);
-            case "set": return x.set(a, b);
-            case "pass": return x.pass(a);
-            case "teach": return x.teach(a, b);
-            case "march": return x.march(a);
-            case "append": return x.append(a);
-            case "clearBuffer": return x.clearBuffer();
-            case "firstError": return x.firstError();
-            case "work": return x.work();
-            case "told": return x.told(a, b);
-            case "undo": return x.undo();
-            case "keep": return x.keep();
-            case "restore": return x.restore();
-            case "pupilOf": return x.pupilOf(a, b);
-            case "instrumentOf": return x.instrumentOf(a, b);
-            case "loan": return x.loan(a);
-            case "part": return x.part(a, b, d);
-            case "count": return x.count(a);
-            case "noLoan": return x.noLoan(a, b);
-            case "noLesson": return x.noLesson(a, b);
-            case "shortOf": return x.shortOf(a);
-            case "most": return x.most(a);
-            case "bestMarch": return x.bestMarch();
-            case "helps": return x.helps(a, b);
-            case "played": return Double.doubleToLongBits(x.played());
-            default: return x.digest();
-        }
     }
 
     /** The runs are worth something only if they come to the rare answers too. */
