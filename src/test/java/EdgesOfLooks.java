@@ -216,6 +216,10 @@ final class EdgesOfLooks {
         thing = hash(thing, 3, 9, -1, 0, -1, 0);
         e.is("one instrument", "instrument 3 | dent 0 9 | digest = "
             + hash(nobodysMarches(thing), 0, Double.doubleToLongBits(1.0), 0));
+        // Each digest is looked at beside the model's too.
+        e.is("helps is that of the teacher 2", "pupil 30 | instrument 3 | lend 0 0 | 7* teach 0 0 & pass 2 | helps 3 0 = NONE"
+            + " | helps 3 2 = 0 | digest");
+        e.is("10 of each", TEN + " | digest | lend 0 9 | lend 9 0 | digest | teach 9 0 | digest | pass 6 | march 0 | digest");
         e.is("a loan and a march", "2* pupil 30 | 2* instrument 2 | lend 1 0 | lend 0 1 | teach 1 0 | pass 6 | march 1 = 2"
             + " | type day;d | digest = " + baritones());
     }

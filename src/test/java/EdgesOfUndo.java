@@ -89,6 +89,10 @@ final class EdgesOfUndo {
             + " | count 11 = 0 | count 14 = 20 | count 8 = 1000000 | pupilOf 0 3 = 20");
         e.is("a loan with the dents that it began with", "pupil 20 | instrument 0 | dent 0 2 | lend 0 0 | dent 0 1 | back 0 = 20"
             + " | undo | instrumentOf 0 4 = 1 | back 0 = 20");
+        e.is("a loan of dents, behind a loan without", "pupil 20 | instrument 0 | dent 0 2 | lend 0 0 | back 0 | mend 0"
+            + " | lend 0 0 | 3* undo | instrumentOf 0 4 = 0 | dent 0 1 | back 0 = 20");
+        e.is("a pupil, behind another with the same number", "pupil 20 | undo | pupil 7 = 0 | pupilOf 0 0 = 7 | undo | undo !State"
+            + " | pupil 9 = 0 | pupilOf 0 0 = 9 | pupilOf 0 1 = 9");
         e.is("the buffer stays", "type day | pass 1 | type ;d | undo = 0 | firstError = 5 | clearBuffer = 5");
         e.is("the snapshot stays", "pass 2 | keep = 2 | pass 3 | undo | undo | restore = 2");
         e.is("a snapshot behind the saved state stays", "pass 2 | keep = 2 | undo = 0 | restore = 2 | undo = 0 | count 3 = 0");
@@ -144,6 +148,12 @@ final class EdgesOfUndo {
             + " | pupilOf 0 0 !Index | pupil 7 = 0 | instrument 3 = 0 | pupilOf 0 0 = 7 | pupilOf 0 4 = NONE");
         e.is("more of them", "10* pupil 20 & instrument 0 | lend 9 9 | keep | 6* undo | restore | count 0 = 10 | count 1 = 10"
             + " | pupil 20 !State | instrument 0 !State | loan 0 = 99");
+        e.is("a pupil, in place of another with the same number", "pupil 20 | keep | undo | pupil 7 = 0 | restore"
+            + " | pupilOf 0 0 = 20 | pupilOf 0 1 = 20 | undo | pupilOf 0 0 = 7 | pupilOf 0 1 = 7");
+        e.is("an instrument, in place of another with the same number", "instrument 3 | keep | undo | instrument 1 = 0 | restore"
+            + " | instrumentOf 0 0 = 3 | undo | instrumentOf 0 0 = 1");
+        e.is("a loan of dents, in place of a loan without", "pupil 20 | instrument 0 | dent 0 2 | lend 0 0 | keep | back 0 | mend 0"
+            + " | lend 0 0 | restore | instrumentOf 0 4 = 0 | dent 0 1 | back 0 = 20");
         e.is("the settings", "set 0 50 | set 1 200 | set 2 99 | keep | set 0 0 | set 1 0 | set 2 0 | restore | count 15 = 50"
             + " | count 16 = 200 | count 17 = 99");
         e.is("the buffer stays", "type day | keep | append 59 | restore | clearBuffer = 4 | restore | clearBuffer = 0");
