@@ -453,7 +453,8 @@ public final class BandCornets {
     }
 
     private static int lipsOfPart(int march, int part) {
-        return Math.max(1, 2 + 3 * march - 2 * part);
+        int lips = 2 + 3 * march - 2 * part;
+        return lips < 1 ? 1 : lips;
     }
 
     private int partNumber(int march, int part, int what) {
@@ -705,7 +706,7 @@ public final class BandCornets {
         return (exponent << 52) + (long) ((scaled - 1.0) * 4503599627370496.0);
     }
 
-    /** One pupil. */
+    /** Its object is used again behind an undo, by another pupil of the same number, so that come sets every number. */
     private static final class Pupil {
         int lungs;
         int breath;
@@ -760,7 +761,7 @@ public final class BandCornets {
         }
     }
 
-    /** One instrument. */
+    /** Its object is used again behind an undo, as that of a pupil is, so that come sets every number here too. */
     private static final class Instrument {
         static final int MOST_DENTS = 9;
         static final int DENTS_OF_NO_PLAY = 5;

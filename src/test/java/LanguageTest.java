@@ -14,6 +14,7 @@ import java.util.regex.Pattern;
 /** Looks at the source and at the compiled class for what LANGUAGE.md leaves out; it cannot see all of its rules. */
 public final class LanguageTest {
     private static final String SOURCE = "src/main/java/BandCornets.java";
+    private static final String DOCUMENT = "../shared/DOC.md";
     private static final Checks c = new Checks();
 
     private static final String[] LEFT_OUT = {
@@ -58,7 +59,8 @@ public final class LanguageTest {
     };
 
     public static void main(String[] args) throws IOException {
-        String code = withoutComments(Files.readString(Path.of(SOURCE)));
+        String source = Files.readString(Path.of(SOURCE));
+        String code = withoutComments(source);
         c.at("source");
         for (String word : LEFT_OUT) {
             c.due("'" + word + "'", code.contains(word) ? 1 : 0, 0);
@@ -69,6 +71,7 @@ public final class LanguageTest {
         throwsAreLeft(code);
         methodsAreShort(code);
         face();
+        faceOfTheDocument(Files.readString(Path.of(DOCUMENT)), source);
         classes();
         c.end("LanguageTest");
     }
@@ -138,6 +141,33 @@ public final class LanguageTest {
                 && Modifier.isStatic(f.getModifiers()) && Modifier.isFinal(f.getModifiers());
             c.due(f + " is private or NONE", isConstant || Modifier.isPrivate(f.getModifiers()) ? 1 : 0, 1);
         }
+    }
+
+    /** The lines of the document's face stand in the source in their order, and its headings ahead of their calls. */
+    private static void faceOfTheDocument(String document, String source) {
+        c.at("face of the document");
+        Matcher line = Pattern.compile("(?m)^    (public .*?);? *$").matcher(document);
+        int behind = 0;
+        int lines = 0;
+        while (line.find()) {
+            int at = source.indexOf("    " + line.group(1) + (line.group(1).contains("(") ? " {\n" : ";\n"), behind);
+            c.due(line.group(1), at >= 0 ? 1 : 0, 1);
+            behind = Math.max(at, behind);
+            lines++;
+        }
+        c.due("lines of the face", lines, FACE.length + 2);
+        Matcher heading = Pattern.compile("Ahead of the calls (.*?) the interface says: (---- .*)\\.").matcher(document);
+        int headings = 0;
+        while (heading.find()) {
+            int said = source.indexOf("    // " + heading.group(2) + "\n");
+            int next = source.indexOf("    // ----", said + 1);
+            for (String name : heading.group(1).replace("`", "").split(", ")) {
+                int call = source.indexOf(" " + name + "(", source.indexOf("    public BandCornets()"));
+                c.due(name + " stands under " + heading.group(2), said >= 0 && said < call && call < next ? 1 : 0, 1);
+            }
+            headings++;
+        }
+        c.due("headings", headings, 6);
     }
 
     private static void classes() {

@@ -53,13 +53,38 @@ public final class ModelTest {
     private static void run(int number) {
         BandCornets x = new BandCornets();
         Model m = new Model();
-        int style = number % 4;
-        int calls = 0;
+        int style = number % 5;
+        int calls = style == 4 ? fullBand(x, m, "run " + number) : 0;
         while (calls < CALLS) {
             calls += step(x, m, style, calls, "run " + number);
         }
         c.at("run " + number + ", at its end");
         c.due("digest", x.digest(), m.call("digest", 0, 0, 0));
+    }
+
+    /** Ten pupils who all have instruments of the kinds of one march, and lessons on some days. */
+    private static int fullBand(BandCornets x, Model m, String run) {
+        int first = from(0, 3);
+        for (int k = 0; k < 10; k++) {
+            check(x, m, run, "pupil", from(14, 30), 0, 0);
+            check(x, m, run, "instrument", (first + below(2)) % 4, 0, 0);
+            check(x, m, run, "lend", k, k, 0);
+        }
+        int days = from(0, 14);
+        int taught = from(3, 10);
+        for (int day = 0; day < days; day++) {
+            for (int p = 0; p < taught; p++) {
+                check(x, m, run, "teach", p, 2, 0);
+            }
+            check(x, m, run, "pass", 1, 0, 0);
+        }
+        for (int march = 0; march < 4; march++) {
+            check(x, m, run, "shortOf", march, 0, 0);
+            check(x, m, run, "most", march, 0, 0);
+            check(x, m, run, "helps", march, from(0, 2), 0);
+        }
+        check(x, m, run, "bestMarch", 0, 0, 0);
+        return 30 + days * (taught + 1) + 13;
     }
 
     /** Makes one call, or a text of calls; returns how many. */
@@ -203,10 +228,11 @@ public final class ModelTest {
     /** Writes works, sometimes with a wrong sign, looks for errors, and lets them be done. */
     private static int text(BandCornets x, Model m, String run) {
         StringBuilder s = new StringBuilder();
-        int parts = from(1, 5);
-        for (int k = 0; k < parts; k++) {
+        boolean isLong = below(5) == 0;
+        int parts = isLong ? from(5, 13) : from(1, 5);
+        for (int k = 0; k < parts && s.length() < 43; k++) {
             s.append(k > 0 ? ";" : "");
-            int w = below(6);
+            int w = isLong && below(5) > 0 ? 5 : below(6);
             s.append(w == 0 ? "lend" : w == 1 ? "back" : w == 2 ? "teach" : w == 3 ? "march" : w == 4 ? "mend" : "day");
             if (w < 5) {
                 s.append(w == 3 ? from(0, 3) : below(3) == 0 ? from(0, 9) : from(0, 3));
@@ -250,7 +276,8 @@ public final class ModelTest {
         c.at("what was seen");
         String[] rare = {"noLoan 0", "noLoan 1", "noLoan 2", "noLoan 3", "noLoan 4", "noLoan 5", "noLesson 0", "noLesson 1",
             "noLesson 2", "noLesson 3", "noLesson 4", "shortOf 0", "shortOf 1", "march 0", "march 1", "march 4", "most 4",
-            "bestMarch 0", "bestMarch 1", "bestMarch 2", "bestMarch 3", "helps 0", "work 0", "work 3", "undo 5",
+            "bestMarch 0", "bestMarch 1", "bestMarch 2", "bestMarch 3", "helps 0", "work 0", "work 3", "work 6", "undo 5",
+            "lend 9", "lend a number",
             "undo throws.IllegalStateException", "restore a number", "work throws.IllegalArgumentException"};
         for (String one : rare) {
             c.due(one, seen.getOrDefault(one, 0) >= 5 ? 1 : 0, 1);
